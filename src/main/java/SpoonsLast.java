@@ -682,7 +682,7 @@ public final class SpoonsLast {
         return least;
     }
 
-    /** The greatest number that divides both; most is above 0 and divides itself, so some d does. */
+    /** The greatest number that divides both, for lowest terms; 0 is divided by all. */
     private static int commonPart(int some, int most) {
         for (int d = most; d > 1; d--) {
             if (some % d == 0 && most % d == 0) {
@@ -708,6 +708,7 @@ public final class SpoonsLast {
         final int[] washSpoon = new int[WASHES];
         int spoons;
         final int[] kind = new int[MOST_SPOONS];
+        /** The document's m. */
         final int[] mark = new int[MOST_SPOONS];
         final int[] silver = new int[MOST_SPOONS];
         final long[] fresh = new long[MOST_SPOONS];
@@ -1157,7 +1158,7 @@ public final class SpoonsLast {
         }
     }
 
-    /** What a KIND does; this one is KIND SPOON, and the other KINDS are under it. */
+    /** What a KIND does (mark is m); this one is KIND SPOON, and the other KINDS are under it. */
     private static class Spoon {
         int stays(int mark, int weight, int silver) {
             return 3;
