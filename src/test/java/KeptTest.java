@@ -36,7 +36,8 @@ public final class KeptTest {
         Due.due("told(2)", x.told(2), 1);
     }
 
-    private static void imageKeepsAll() {
+    /** An object with something in all that an IMAGE keeps, and the IMAGE of that. */
+    private static SpoonsLast imaged() {
         SpoonsLast x = new SpoonsLast();
         for (int s = 0; s < 7; s++) {
             x.spoon(10 * s + s, 10 + s);
@@ -59,9 +60,16 @@ public final class KeptTest {
         x.tell(6);
         Texts.feed(x, "r*3+n");
         x.image();
-        long before = look(x);
+        return x;
+    }
+
+    private static void imageKeepsAll() {
+        long before = look(imaged());
+        SpoonsLast x = imaged();
         change(x);
         Due.due("it is another then", look(x) == before ? 1 : 0, 0);
+        x = imaged();
+        change(x);
         Due.due("restore()", x.restore(), 4);
         Due.due("all as it was", look(x), before);
         Due.due("the tape's letters", x.text(1), 1);

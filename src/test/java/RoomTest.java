@@ -2,7 +2,8 @@ import java.lang.management.ManagementFactory;
 
 /** What calls make: rows are made with the object, and only TEXTS after it. */
 public final class RoomTest {
-    private static final long LONG_RUN = 512;
+    /** With the calls that furnish it, about as many as an object is used for. */
+    private static final long TEXTS = 75;
 
     private RoomTest() {
     }
@@ -22,9 +23,9 @@ public final class RoomTest {
         made = bean.getCurrentThreadAllocatedBytes() - start;
         Due.due("calls make nothing: " + made, made < 4096 ? 1 : 0, 1);
         start = bean.getCurrentThreadAllocatedBytes();
-        text(x, LONG_RUN);
+        text(furnished(), TEXTS);
         made = bean.getCurrentThreadAllocatedBytes() - start;
-        Due.due("512 TEXTS of 40 bytes take below 1 MiB: " + made, made < 1 << 20 ? 1 : 0, 1);
+        Due.due("75 TEXTS of 40 bytes take below 160 KiB: " + made, made < 160 * 1024 ? 1 : 0, 1);
         Due.end();
     }
 
