@@ -34,7 +34,7 @@ public final class SpoonsLast {
     private static final int MOST_TRACE = 40;
     private static final int MOST_WAITING = 20;
 
-    /** For each KIND the one above it, which has a lower number; -1 above SPOON. */
+    /** For each KIND the one above it; -1 above SPOON. */
     private static final int[] ABOVE = {-1, 0, 0, 0, 1, 2, 3};
 
     private final House house;
@@ -186,10 +186,12 @@ public final class SpoonsLast {
         if (!isSpoon(spoon) || !within(kind, 0, KINDS - 1)) {
             return refused(BEYOND);
         }
-        for (int k = house.kind[spoon]; k >= 0; k = ABOVE[k]) {
-            if (k == kind) {
+        int up = house.kind[spoon];
+        for (int i = 0; i < KINDS && up >= 0; i++) {
+            if (up == kind) {
                 return house.mark[spoon];
             }
+            up = ABOVE[up];
         }
         return refused(KIND);
     }
@@ -676,8 +678,10 @@ public final class SpoonsLast {
             return 1;
         }
         int least = MOST_SPOONS;
-        for (int part = (set - 1) & set; part > 0; part = (part - 1) & set) {
-            least = Math.min(least, fewest[part] + fewest[set ^ part]);
+        for (int part = 1; part < set; part++) {
+            if ((part & ~set) == 0) {
+                least = Math.min(least, fewest[part] + fewest[set ^ part]);
+            }
         }
         return least;
     }
@@ -1069,6 +1073,7 @@ public final class SpoonsLast {
             }
         }
 
+        /** Of a TEXT without a FAULT, whose signs each find on the stack what they join. */
         int workOut(int a, int b, int c) {
             int top = 0;
             for (int i = 0; i < length; i++) {

@@ -130,6 +130,7 @@ public final class FaceTest {
         lacks(code, "rule 6", "\\b(equals|hashCode|toString|getClass)\\b");
         lacks(code, "rule 10", "\"\\s*\\+|\\+\\s*\"");
         lacks(code, "rule 12", "\\b(Thread|Random|File|Object)\\b");
+        loops(code);
         int longest = 0;
         int length = 0;
         for (String line : text.split("\n")) {
@@ -139,5 +140,44 @@ public final class FaceTest {
             longest = ends && length < 200 ? Math.max(longest, length) : longest;
         }
         Due.due("methods of some sixty lines", longest > 5 && longest <= 60 ? 1 : 0, 1);
+    }
+
+    /**
+     * "Every loop has an end that can be seen from its own lines (a counter against a bound, or a chain
+     * of objects that has an end)": here each is a for whose own counter goes by one against a bound.
+     */
+    private static void loops(String code) {
+        Due.topic("rule 9");
+        lacks(code, "rule 9", "\\b(while|do)\\b");
+        Pattern up = Pattern.compile("int (\\w+) = [^;]+; \\1 <=? [^;]+; \\1\\+\\+");
+        Pattern down = Pattern.compile("int (\\w+) = [^;]+; \\1 >=? [^;]+; \\1--");
+        Matcher loop = Pattern.compile("\\bfor\\s*\\((.*)\\) \\{").matcher(code);
+        int counted = 0;
+        while (loop.find()) {
+            Matcher rising = up.matcher(loop.group(1));
+            Matcher falling = down.matcher(loop.group(1));
+            boolean rises = rising.matches();
+            boolean falls = falling.matches();
+            Due.due(loop.group() + " counts against a bound", rises || falls ? 1 : 0, 1);
+            if (rises || falls) {
+                String counter = rises ? rising.group(1) : falling.group(1);
+                boolean told = body(code, loop.end()).matches(
+                    "(?s).*(?<![.\\w])" + counter + "\\s*(=[^=]|\\+\\+|--|[-+*/%&|^]=|<<=|>>>?=).*");
+                Due.due(loop.group() + " leaves its counter to itself", told ? 1 : 0, 0);
+                counted++;
+            }
+        }
+        int all = code.split("\\bfor\\b", -1).length - 1;
+        Due.due("loops that count", counted, all);
+    }
+
+    /** What stands from a place on, up to the brace that closes what is open there. */
+    private static String body(String code, int from) {
+        int open = 1;
+        int at = from;
+        for (; at < code.length() && open > 0; at++) {
+            open += code.charAt(at) == '{' ? 1 : code.charAt(at) == '}' ? -1 : 0;
+        }
+        return code.substring(from, at);
     }
 }
